@@ -21,16 +21,39 @@ public final class ModelTest {
 
     public static void main(String[] args) {
         Check check = new Check("ModelTest");
-        for (int seed = 0; seed < RUNS; seed++) {
+        int runs = args.length > 0 ? Integer.parseInt(args[0]) : RUNS;
+        for (int seed = 0; seed < runs; seed++) {
             new ModelTest(check, seed).run();
         }
         check.finish();
     }
 
     private void run() {
-        int calls = 0;
+        int calls = 1;
+        int seconds = 1 + dice.nextInt(dice.nextBoolean() ? 60 : 500);
+        due("drawn", model.drawn(seconds), real.drawn(seconds));
+        for (int k = 0; k < 5; k++) {
+            calls += k < 4 ? tell(0, k) : 0;
+            calls += tell(1, k);
+            calls += k < 2 ? tell(2, k) : 0;
+        }
         while (calls < CALLS - 40) {
             calls += step();
+        }
+    }
+
+    /** Every place, beside the calls that are counted: they change nothing. */
+    private void compareTapes() {
+        for (int tape = 0; tape < 2; tape++) {
+            for (int place = 0; place < 300; place++) {
+                for (int what = 0; what < 10; what++) {
+                    int want = model.at(tape, place, what);
+                    int got = real.at(tape, place, what);
+                    if (want != got) {
+                        due("at(" + tape + ", " + place + ", " + what + ")", want, got);
+                    }
+                }
+            }
         }
     }
 
@@ -61,6 +84,7 @@ public final class ModelTest {
         if (sort < 6) {
             int k = pick(5);
             due("run(" + k + ")", model.run(k), real.run(k));
+            compareTapes();
             return 1;
         }
         if (sort < 8) {
@@ -113,6 +137,10 @@ public final class ModelTest {
 
     private int pieces() {
         int[] p = piece();
+        // Pieces with something on them are worth more looks.
+        for (int i = 0; i < 4 && model.look(1 + (p[0] & 1)) == 0; i++) {
+            p = piece();
+        }
         int what = pick(3);
         int doubt = pick(dice.nextBoolean() ? 5 : 200);
         int t = pick(Math.max(0, model.look(0) - 1));
@@ -227,8 +255,8 @@ public final class ModelTest {
             int[] most = {marks, marks, marks, marks, 9, 9, 1, 150};
             for (int i = 0; i < 8; i++) {
                 int word = dice.nextInt(40) == 0 ? dice.nextInt(8) : i;
-                if (dice.nextInt(3) > 0) {
-                    text.append(line(words[word], number(least[word], most[word])));
+                if (dice.nextInt(3) > 0 || i == 6) {
+                    text.append(line(words[word], i == 6 && dice.nextInt(4) > 0 ? 1 : number(least[word], most[word])));
                 }
             }
             return text.toString();

@@ -12,6 +12,7 @@ public final class ReaderTest {
         logic();
         precedence();
         deepOnes();
+        toldAgain();
         blankPlaces();
         saysWrong();
         right();
@@ -86,6 +87,11 @@ public final class ReaderTest {
         dueSo(true, "7>6");
         dueSo(true, "0-1<0");
         dueSo(true, "0012=12");
+        dueSo(true, "5/1=5");
+        dueSo(true, "1+2<4-0");
+        dueSo(true, "9-5=2*2");
+        dueSo(true, "9-4-1*2>2+0");
+        dueSo(true, "2+6/2-1=4");
     }
 
     private static void wraps() {
@@ -137,6 +143,19 @@ public final class ReaderTest {
         dueSo(true, "not(".repeat(4) + "1=1" + ")".repeat(4));
         dueSo(true, "1=2 or ".repeat(60) + "1=1");
         dueSo(false, "1=1 and ".repeat(60) + "1=2");
+    }
+
+    private static void toldAgain() {
+        HumTape x = new HumTape();
+        for (int i = 0; i < 9; i++) {
+            Check.reader(x, 0, "joined when 1=2;".repeat(11) + "copied when " + "1+".repeat(i) + "0=" + i + ";");
+            CHECK.due("told again", 3, x.says(0, 0, 0, false));
+            Check.reader(x, 1, "whole when (not (not (1=1 or 1=2 and 1+1*");
+            Check.reader(x, 2, "wiped when not (1=2 and not 1=2);" + "joined when 1=1;".repeat(i));
+            CHECK.due("told behind a fault", 1, x.says(2, 0, 0, false));
+            CHECK.due("lines", 1 + i, Check.reader(x, 2, "wiped when 1=2;" + "joined when 1=1;".repeat(i)));
+        }
+        CHECK.due("not told", 0, x.says(1, 0, 0, false));
     }
 
     private static void blankPlaces() {

@@ -8,6 +8,7 @@ public final class RunTest {
         rec();
         recAtTheEdge();
         recOverWiderOnes();
+        nothingOldStays();
         recBySpeed();
         recWithoutHum();
         secondsThatEnd();
@@ -83,6 +84,16 @@ public final class RunTest {
         CHECK.due("look(4)", 2, x.look(4));
     }
 
+    private static void nothingOldStays() {
+        HumTape x = Check.ran(HUM, FULL, "rec 3;tape 1;at 0;copy 0 3;at 0;second 7;rec 1;erase 1;at 2;copy 9 1;");
+        duePlace(x, 1, 0, 1, 0, 17, -1, 2, 20, 0, 5, 2, 0);
+        duePlace(x, 1, 1, 0, -1, 18, -1, 2, 40, 0, 5, 1, 0);
+        duePlace(x, 1, 2, 0, -1, 19, -1, 2, 20, 0, 5, 3, 0);
+        HumTape y = Check.ran(HUM, FULL, "rec 1;rec 1;at 0;rec 3;");
+        CHECK.due("marks that were there are gone", 1, y.marks(0, 1, 2, 0));
+        CHECK.due("marks that were there are gone", 0, y.at(0, 1, 5));
+    }
+
     private static void recBySpeed() {
         HumTape x = Check.ran(new int[] {10, 31, 32, 63, 0}, "hum 1;speed 50;", "rec 5;");
         CHECK.due("10 by 50", 20, x.at(0, 0, 2));
@@ -93,6 +104,8 @@ public final class RunTest {
         HumTape y = Check.ran(new int[] {10, 63}, "hum 1;speed 150;", "rec 2;");
         CHECK.due("10 by 150", 6, y.at(0, 0, 2));
         CHECK.due("63 by 150", 42, y.at(0, 1, 2));
+        HumTape w = Check.ran(new int[] {37}, "hum 1;speed 59;", "rec 1;");
+        CHECK.due("37 by 59", 62, w.at(0, 0, 2));
         HumTape z = Check.ran(new int[] {10, 63}, "hum 1;speed 97;", "rec 2;");
         CHECK.due("10 by 97", 10, z.at(0, 0, 2));
         CHECK.due("63 by 97", 63, z.at(0, 1, 2));

@@ -63,8 +63,11 @@ public final class SlideTest {
         x.heard(0, 1, 3, 10);
         CHECK.due("second beats", 3, x.slide(0, 0, 1, 1, 100, 0, 1));
         CHECK.due("first beats", -1, x.slide(0, 0, 1, 0, 100, 0, 1));
-        CHECK.due("row 2", -1, x.slide(0, 0, 1, 2, 100, 0, 1));
-        CHECK.due("row -1", -1, x.slide(0, 0, 1, -1, 100, 0, 1));
+        for (int what = 0; what < 4; what++) {
+            CHECK.due("row 2", -1, x.slide(0, 0, 1, 2, 100, 0, what));
+            CHECK.due("row -1", -1, x.slide(0, 0, 1, -1, 100, 0, what));
+            CHECK.due("row MAX", -1, x.slide(0, 0, 1, MAX, 100, 0, what));
+        }
     }
 
     private static void slideBySpeed() {
@@ -86,6 +89,7 @@ public final class SlideTest {
         CHECK.due("none has a beat", 7, x.slide(0, 1, 1, 0, 100, 0, 0));
         CHECK.due("none has a beat, off", 0, x.slide(0, 3, 3, 0, 100, 0, 3));
         CHECK.due("blank ones", 1, x.slide(1, 0, 6, 0, 100, 0, 0));
+        CHECK.due("blank ones at the end", 1, x.slide(1, 293, 299, 0, 100, 0, 0));
         CHECK.due("no t at all", -1, x.slide(1, 0, 7, 0, 100, 0, 0));
     }
 

@@ -8,6 +8,8 @@ public final class TextTest {
     public static void main(String[] args) {
         feed();
         end();
+        endWithinTokens();
+        manyTokens();
         text();
         noSuchText();
         fault();
@@ -61,6 +63,34 @@ public final class TextTest {
         CHECK.due("end(8)", false, x.end(8));
         CHECK.due("text", 1, x.text(MACHINE, 0));
         CHECK.due("empty then", false, x.end(1));
+    }
+
+    private static void endWithinTokens() {
+        HumTape x = new HumTape();
+        Check.type(x, "hiss 1234;");
+        x.end(6);
+        CHECK.due("the text ends behind the 1", -1, x.text(MACHINE, 0));
+        CHECK.due("so there is no ;", 6, x.fault(1));
+        Check.type(x, "hiss 123456;");
+        x.end(9);
+        CHECK.due("1234 can't be", -1, x.text(MACHINE, 0));
+        CHECK.due("1234 can't be", 2, x.fault(0));
+        Check.type(x, "hissing");
+        x.end(4);
+        CHECK.due("hiss is a keyword", -1, x.text(MACHINE, 0));
+        CHECK.due("and what is wrong is the end", 4, x.fault(1));
+    }
+
+    private static void manyTokens() {
+        for (int sort = MACHINE; sort <= READER; sort++) {
+            dueFault(sort, ";".repeat(600), 1, 0);
+            dueFault(sort, "1;".repeat(300), 1, 0);
+            dueFault(sort, " ".repeat(599) + ";", 1, 599);
+            dueFault(sort, "a".repeat(600), 1, 0);
+            dueFault(sort, "7".repeat(600), 1, 0);
+        }
+        dueFault(READER, "whole when " + "1+".repeat(294) + "1", 1, 600);
+        dueFault(READER, "whole when 1=1" + "+".repeat(586), 1, 15);
     }
 
     private static void text() {
