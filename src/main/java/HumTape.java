@@ -974,8 +974,10 @@ public final class HumTape {
                     int count = Math.min(story.lengths[i], PLACES - number);
                     copy(tapes[tape], tapes[1 - tape], number, count, by, land);
                     break;
-                default:
+                case CUT:
                     tapes[tape].cutOut(at, number);
+                    break;
+                default:
                     break;
             }
         }
@@ -1420,6 +1422,7 @@ public final class HumTape {
             tokens.advance();
         }
 
+        /** Reads token by token: each part answers with what may come behind it. */
         boolean readReader(Reader into) {
             into.forget();
             tokens.split(READER_WORDS);
@@ -1428,30 +1431,32 @@ public final class HumTape {
                 if (phase == LINE && tokens.kind() == END_TOKEN) {
                     return true;
                 }
-                phase = readPart(into, phase);
+                switch (phase) {
+                    case LINE:
+                        phase = readAnswer(into);
+                        break;
+                    case WHEN:
+                        phase = tokens.isWord(WORD_WHEN) ? CLAUSE : refuse(MISPLACED);
+                        break;
+                    case CLAUSE:
+                        phase = readClause(into);
+                        break;
+                    case OPERAND:
+                        phase = readOperand(into);
+                        break;
+                    case DIVISOR:
+                        phase = readDivisor(into);
+                        break;
+                    case ARITHMETIC:
+                        phase = readArithmetic(into);
+                        break;
+                    default:
+                        phase = readLogic(into);
+                        break;
+                }
                 tokens.advance();
             }
             return false;
-        }
-
-        /** Reads one token of a reader: what may come behind it. */
-        private int readPart(Reader into, int phase) {
-            switch (phase) {
-                case LINE:
-                    return readAnswer(into);
-                case WHEN:
-                    return tokens.isWord(WORD_WHEN) ? CLAUSE : refuse(MISPLACED);
-                case CLAUSE:
-                    return readClause(into);
-                case OPERAND:
-                    return readOperand(into);
-                case DIVISOR:
-                    return readDivisor(into);
-                case ARITHMETIC:
-                    return readArithmetic(into);
-                default:
-                    return readLogic(into);
-            }
         }
 
         private int readAnswer(Reader into) {
@@ -1539,11 +1544,12 @@ public final class HumTape {
         }
 
         private int readLogic(Reader into) {
-            if (tokens.isWord(WORD_AND)) {
-                return readLink(into, AND);
-            }
-            if (tokens.isWord(WORD_OR)) {
-                return readLink(into, OR);
+            boolean both = tokens.isWord(WORD_AND);
+            if (both || tokens.isWord(WORD_OR)) {
+                int step = both ? AND : OR;
+                release(into, RANK[step]);
+                putOff(step);
+                return CLAUSE;
             }
             boolean closes = tokens.isSign(')');
             if (!closes && !tokens.isSign(';')) {
@@ -1560,12 +1566,6 @@ public final class HumTape {
             waitingCount--;
             open--;
             return LOGIC;
-        }
-
-        private int readLink(Reader into, int step) {
-            release(into, RANK[step]);
-            putOff(step);
-            return CLAUSE;
         }
 
         private void putOff(int step) {

@@ -154,7 +154,7 @@ public final class PieceTest {
         CHECK.due("odds", 985, x.which(0, 0, 5, 0, 0));
         CHECK.due("odds", 7, x.which(0, 0, 5, 1, 0));
         CHECK.due("odds", 1, x.which(0, 0, 5, 5, 0));
-        CHECK.due("the mark of the last place", 5, x.which(0, 2, 3, 0, 1) / x.which(0, 2, 2, 0, 1));
+        CHECK.due("the mark of the last place", 25, x.which(0, 2, 3, 0, 1));
         CHECK.due("no marks: weight", 1, x.which(0, 4, 4, 0, 1));
         CHECK.due("no marks: odds", 166, x.which(0, 4, 4, 0, 0));
         CHECK.due("blank ones", 166, x.which(1, 0, 299, 3, 0));

@@ -88,6 +88,12 @@ public final class ReaderTest {
         dueSo(true, "0-1<0");
         dueSo(true, "0012=12");
         dueSo(true, "5/1=5");
+        dueSo(true, "3=1+2");
+        dueSo(false, "2=1+2");
+        dueSo(false, "2>1+2");
+        dueSo(false, "2<1-2");
+        dueSo(true, "9-4*2=1");
+        dueSo(true, "9+4*2=17");
         dueSo(true, "1+2<4-0");
         dueSo(true, "9-5=2*2");
         dueSo(true, "9-4-1*2>2+0");
@@ -148,7 +154,8 @@ public final class ReaderTest {
     private static void toldAgain() {
         HumTape x = new HumTape();
         for (int i = 0; i < 9; i++) {
-            Check.reader(x, 0, "joined when 1=2;".repeat(11) + "copied when " + "1+".repeat(i) + "0=" + i + ";");
+            int ones = 150 + i;
+            Check.reader(x, 0, "joined when 1=2;".repeat(11) + "copied when " + "1+".repeat(ones) + "0=" + ones + ";");
             CHECK.due("told again", 3, x.says(0, 0, 0, false));
             Check.reader(x, 1, "whole when (not (not (1=1 or 1=2 and 1+1*");
             Check.reader(x, 2, "wiped when not (1=2 and not 1=2);" + "joined when 1=1;".repeat(i));
