@@ -153,6 +153,7 @@ final class ActEdges {
         e.due("1 by 150", 0, y.at(0, 0, 2));
         e.due("2 by 150", 1, y.at(0, 1, 2));
         e.due("63 by 150", 42, y.at(0, 2, 2));
+        e.due("37 by 59", 62, Check.ran(new int[] {37}, "hum 1;speed 59;", "rec 1;").at(0, 0, 2));
         e.due("a machine without hum", -1, ofThree("machine 2;rec 1;").at(0, 0, 2));
         HumTape z = ran("second 9;rec 2;second 1999;rec 1;");
         e.due("the last second that is there", 19, z.at(0, 0, 2));

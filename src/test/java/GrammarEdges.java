@@ -139,6 +139,7 @@ final class GrammarEdges {
         e.so(true, "5=5");
         e.so(false, "5>5");
         e.so(true, "6>5");
+        e.so(true, "6>5 and 5<6 and 5=5");
         e.so(false, "not 1=2 and 1=2");
         e.so(true, "not (1=2 and 1=1)");
         e.so(false, "(1=1 or 1=1) and 1=2");
@@ -157,6 +158,10 @@ final class GrammarEdges {
         e.so(true, "9-4+3=8");
         e.so(true, "0-1<0");
         e.so(true, "1+1+1+1=2+2");
+        e.so(false, "5<2+1");
+        e.so(false, "5=2+1");
+        e.so(false, "2>2+1");
+        e.so(false, "5<2-1");
         e.fault(READER, "whole when -1<1;", 1, 11);
         e.fault(READER, "whole when 1+<1;", 1, 13);
         e.fault(READER, "whole when 1+-1<1;", 1, 13);
@@ -167,6 +172,9 @@ final class GrammarEdges {
         e.so(true, "7*3/2=10");
         e.so(true, "7/2*3=9");
         e.so(true, "1+2*3=7");
+        e.so(true, "9-4*2=1");
+        e.so(true, "9-4/2=7");
+        e.so(true, "5/1=5");
         e.so(true, "100/7/2=7");
         e.so(true, "0/9999=0");
         e.fault(READER, "whole when 4/mark=1;", 1, 13);
@@ -355,6 +363,8 @@ final class GrammarEdges {
         HumTape x = new HumTape();
         e.due("12 lines", 12, Check.reader(x, 0, "whole when 1=2;".repeat(11) + "joined when 1=1;"));
         e.due("the twelfth is asked", 2, x.says(0, 0, 0, false));
+        e.due("12 lines, none of them so", 12, Check.reader(x, 0, "whole when 1=2;".repeat(12)));
+        e.due("nothing is said then", 0, x.says(0, 0, 0, false));
         e.fault(READER, "whole when 1=1;".repeat(13), 3, 180);
         e.fault(READER, "whole when 1=1;".repeat(12) + " \ncopied oops", 3, 182);
     }

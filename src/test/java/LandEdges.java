@@ -202,6 +202,7 @@ final class LandEdges {
             e.due("state behind drawn(" + n + ")", 77, x.state(77));
             e.due("look(0) behind drawn(" + n + ")", 1600, x.look(0));
         }
+        e.due("drawn(501) with room enough", -1, new HumTape().drawn(501));
         e.due("to 2000", 2000, x.drawn(400));
         x.state(77);
         e.due("to 2001", -1, x.drawn(1));

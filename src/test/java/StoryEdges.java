@@ -81,6 +81,13 @@ final class StoryEdges {
         Check.story(x, 3, "rec 1;");
         e.due("one act", 3, x.alike(0, 0, 1));
         e.due("tape 1 stays blank by all: the fewest acts", 3, x.alike(1, 0, 1));
+        HumTape y = new HumTape();
+        Check.story(y, 0, "rec 2;");
+        Check.story(y, 1, "talk 5;rec 2;");
+        y.run(1);
+        e.due("story 1 has the most, with more acts than 0", 1, y.alike(0, 0, 1));
+        y.run(0);
+        e.due("story 0 has the most", 0, y.alike(0, 5, 1));
     }
 
     private void asks() {
@@ -272,6 +279,12 @@ final class StoryEdges {
         for (int what = 0; what < 6; what++) {
             e.due("look(" + what + ")", due[what], x.look(what));
         }
+        Check.story(x, 4, "copy 0 2;tape 1;at 0;copy 0 5;");
+        x.run(4);
+        e.due("copied on both, not as many", 7, x.look(5));
+        e.due("PLACES of tape 0", 2, x.look(1));
+        e.due("PLACES of tape 1", 5, x.look(2));
+        x.run(5);
         x.heard(1, 299, 6, 99);
         x.heard(0, 0, 6, 0);
         x.heard(0, 1, 6, 0);
