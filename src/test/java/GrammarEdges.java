@@ -149,6 +149,10 @@ final class GrammarEdges {
         e.fault(READER, "whole when (1=1;", 1, 15);
         e.fault(READER, "whole when 1=1);", 1, 14);
         e.fault(READER, "whole when (1)=1;", 1, 13);
+        e.fault(READER, "whole when (1=1)+1;", 1, 16);
+        e.fault(READER, "whole when (1=1)=1;", 1, 16);
+        e.fault(READER, "whole when (1=1)(1=1);", 1, 16);
+        e.fault(READER, "whole when (1=1)not 1=1;", 1, 16);
         e.fault(READER, "whole when not;", 1, 14);
     }
 
